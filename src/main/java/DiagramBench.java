@@ -854,13 +854,11 @@ public final class DiagramBench {
 
         /** A table that no longer asks for an operand that is always no or yes; the mask has the rows where it is no. */
         private static int knowing(int table, int operand, int shift, int mask) {
-            if (operand == NO) {
-                return (table & mask) * (1 + (1 << shift));
+            if (operand >= FIRST_NODE) {
+                return table;
             }
-            if (operand == YES) {
-                return (table >> shift & mask) * (1 + (1 << shift));
-            }
-            return table;
+            int answers = (operand == YES ? table >> shift : table) & mask;
+            return answers | answers << shift;
         }
 
         private int lowAt(int node, int place) {
